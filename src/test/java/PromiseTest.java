@@ -50,6 +50,7 @@ public final class PromiseTest {
         honest();
         changesAndLedger();
         imageAndBack();
+        imageOfWhatIsTold();
         about();
         DUE.close();
     }
@@ -579,6 +580,14 @@ public final class PromiseTest {
             x.back();
             DUE.is("X", x.is(1), 449);
         }
+        int sways = x.of(7, 5);
+        x.foretold(60, 0);
+        DUE.is("sways as now", x.of(7, 5), sways);
+        TruePoll y = ruled(4, "sways own - 2;");
+        y.foretold(60, 0);
+        DUE.is("by the LEAN as now", y.of(1, 4), -1);
+        y.move(1, 2);
+        DUE.is("by no LEAN that was tried", y.of(1, 4), -1);
         DUE.is("0", x.foretold(0, 0), NONE);
         DUE.is("61", x.foretold(61, 0), NONE);
         DUE.is("what 2", x.foretold(1, 2), NONE);
@@ -1160,6 +1169,33 @@ public final class PromiseTest {
         DUE.is("image of 0", x.image(), 0);
         x.day(2);
         DUE.is("back to 0", x.back(), 0);
+    }
+
+    /** What was cleared and told otherwise since is again as it was. */
+    private static void imageOfWhatIsTold() {
+        TruePoll x = ruled(3, "says 1;");
+        x.said(1, 3);
+        x.party(2, 4);
+        x.image();
+        DUE.is("its law", x.whose(), 1);
+        x.said(NONE, 0);
+        x.said(2, 0);
+        x.party(NONE, 0);
+        x.party(7, 8);
+        DUE.is("not its law", x.whose(), 0);
+        DUE.is("another PARTY", x.most(), 7);
+        x.said(NONE, 0);
+        x.said(1, 2);
+        x.back();
+        DUE.is("its law again", x.whose(), 1);
+        DUE.is("the PARTY from 2", x.most(), 2);
+        DUE.is("the PARTY to 4", x.lives(4), 1);
+        DUE.is("not to 5", x.lives(5), 0);
+        x.said(NONE, 0);
+        x.said(4, 3);
+        x.nudge(2, 1);
+        x.back();
+        DUE.is("its law yet", x.whose(), 1);
     }
 
     // promise 62

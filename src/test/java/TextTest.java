@@ -14,6 +14,8 @@ public final class TextTest {
         tooDeep();
         otherFaults();
         sound();
+        cutOff();
+        oneBehindTheOther();
         worths();
         names();
         swaying();
@@ -33,7 +35,12 @@ public final class TextTest {
         faulty("  foo 1;", 1, 2);
         faulty(";", 1, 0);
         faulty("Says 1;", 1, 0);
-        faulty("saysx 1;", 1, 0);
+        for (String letter : new String[] {"a", "z", "A", "Z", "x"}) {
+            faulty("says" + letter + " 1;", 1, 0);
+        }
+        for (String none : new String[] {"`", "{", "@", "[", "_", ":", "!"}) {
+            faulty("says " + none + ";", 1, 5);
+        }
         faulty("says", 1, 4);
         faulty("says  \n ", 1, 8);
         faulty("says 1", 1, 6);
@@ -147,6 +154,44 @@ public final class TextTest {
         }
         full.append(" ;");
         DUE.is("300 bytes", Feeder.read(new TruePoll(), full.toString()), 0);
+    }
+
+    /** What was on the tape behind its end is not there any more. */
+    private static void cutOff() {
+        String[] texts = {"up 15;", "says owns;", "says if 1 <= 2;", "says ;     1;"};
+        int[] ends = {4, 8, 11, 8};
+        for (int i = 0; i < texts.length; i++) {
+            TruePoll x = new TruePoll();
+            Feeder.onTape(x, texts[i]);
+            x.end(ends[i]);
+            DUE.is("cut off: " + texts[i], x.text(), TruePoll.NONE);
+            DUE.is("fault", x.fault(0), 1);
+            DUE.is("place", x.fault(1), i == 3 ? 5 : ends[i]);
+        }
+        TruePoll x = new TruePoll();
+        Feeder.onTape(x, "up 1; 5;");
+        x.end(5);
+        DUE.is("cut off behind a CLAUSE", x.text(), 0);
+    }
+
+    /** Each TEXT, faulty ones too, is read as if it were the first. */
+    private static void oneBehindTheOther() {
+        StringBuilder ones = new StringBuilder("says 0");
+        while (ones.length() < 280) {
+            ones.append("+1-1");
+        }
+        TruePoll x = new TruePoll();
+        for (int i = 0; i < 8; i++) {
+            x.person(i, 0);
+        }
+        x.image();
+        for (int i = 0; i < 20; i++) {
+            x.back();
+            DUE.is("a broken one", Feeder.read(x, ones + "+("), TruePoll.NONE);
+            DUE.is("a full one", Feeder.read(x, ones + "+own-" + i % 8 + ";"), 0);
+            x.by(0);
+            DUE.is("it rules", x.comes(0), 7 - i % 8);
+        }
     }
 
     /** Whether a SUM is just so much, by four people of whom 1 and 3 said yes, 1 hearing all others. */
