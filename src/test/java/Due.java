@@ -1,6 +1,7 @@
 /** Counts the answers that are not the ones due, and says which. */
 final class Due {
     private final String test;
+    private String topic = "";
     private int asked;
     private int wrong;
 
@@ -8,11 +9,16 @@ final class Due {
         this.test = test;
     }
 
+    /** What the answers from here on are about; it is told with each wrong one. */
+    void about(String what) {
+        topic = what.isEmpty() ? "" : what + ": ";
+    }
+
     void is(String call, long got, long want) {
         asked++;
         if (got != want) {
             wrong++;
-            System.out.println(test + ": " + call + " answered " + got + ", due is " + want);
+            System.out.println(test + ": " + topic + call + " answered " + got + ", due is " + want);
         }
     }
 
@@ -24,8 +30,20 @@ final class Due {
         is(call, got ? 1 : 0, 0);
     }
 
+    void same(String what, String got, String want) {
+        asked++;
+        if (!got.equals(want)) {
+            wrong++;
+            System.out.println(test + ": " + topic + what + "\n    is  " + got + "\n    due " + want);
+        }
+    }
+
     boolean anyWrong() {
         return wrong > 0;
+    }
+
+    int asked() {
+        return asked;
     }
 
     /** Ends the test, with exit code 1 if an answer was not the one due. */

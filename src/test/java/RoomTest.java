@@ -5,23 +5,31 @@ import java.lang.management.ManagementFactory;
 public final class RoomTest {
     private static final Due DUE = new Due("RoomTest");
     private static final ThreadMXBean BEAN = (ThreadMXBean) ManagementFactory.getThreadMXBean();
-    private static final int TIMES = 60;
+    /** So many times all calls are fewer than 512, after which an object may answer as it likes. */
+    private static final int TIMES = 7;
+    private static final int OBJECTS = 9;
 
     private RoomTest() {
     }
 
     public static void main(String[] args) {
         // the machine itself makes things when code runs for the first time, so the second go counts
-        allCalls(new TruePoll());
-        allCalls(new TruePoll());
-        TruePoll x = new TruePoll();
+        for (int i = 0; i < 2 * OBJECTS; i++) {
+            allCalls(new TruePoll(), i * TIMES);
+        }
         long before = made();
         new TruePoll();
         long object = made() - before;
         DUE.yes("an object's bytes: " + object, object > 0 && object < 100_000);
-        prepare(x);
+        TruePoll[] prepared = new TruePoll[OBJECTS];
+        for (int i = 0; i < OBJECTS; i++) {
+            prepared[i] = new TruePoll();
+            prepare(prepared[i]);
+        }
         before = made();
-        allCalls(x);
+        for (int i = 0; i < OBJECTS; i++) {
+            allCalls(prepared[i], i * TIMES);
+        }
         long calls = made() - before;
         DUE.yes("calls make nothing: " + calls, calls < 2000);
         texts();
@@ -55,19 +63,19 @@ public final class RoomTest {
         long one = made() - before;
         DUE.yes("a full TEXT's bytes: " + one, one < 10_000);
         before = made();
-        for (int i = 0; i < 100; i++) {
+        for (int i = 0; i < 80; i++) {
             x.back();
             for (int k = 0; k < 4; k++) {
                 x.text();
             }
         }
         long many = made() - before;
-        DUE.yes("400 empty TEXTS: " + many, many < 200_000);
+        DUE.yes("320 empty TEXTS: " + many, many < 160_000);
     }
 
-    private static void allCalls(TruePoll x) {
+    private static void allCalls(TruePoll x, int from) {
         long all = 0;
-        for (int i = 0; i < TIMES; i++) {
+        for (int i = from; i < from + TIMES; i++) {
             boolean odd = i % 2 == 1;
             all += x.feed(i, i, i, i, i) + x.end(i % 7) + x.fault(i % 3) + (x.by(i % 3 - 1) ? 1 : 0) + x.tell(i % 9)
                 + (x.nudge(i % 8, i % 5 - 2) ? 1 : 0) + x.day(i) + x.played(0) + x.years(i, i % 41) + x.undo();

@@ -185,7 +185,7 @@ public final class TextTest {
             x.person(i, 0);
         }
         x.image();
-        for (int i = 0; i < 20; i++) {
+        for (int i = 0; i < 12; i++) {
             x.back();
             DUE.is("a broken one", Feeder.read(x, ones + "+("), TruePoll.NONE);
             DUE.is("a full one", Feeder.read(x, ones + "+own-" + i % 8 + ";"), 0);
