@@ -17,8 +17,8 @@ final class BoundsOfFigures {
 
     // ---- promise 20
 
-    @Sentence(promise = 20, says = "In what follows nobody draws and nobody sways: WHAT COMES of a figure (0 to how many PEOPLE there are): "
-        + "how many say yes, told it, all being as now.")
+    @Sentence(promise = 20, says = "In what follows nobody draws and nobody sways: WHAT COMES of a figure (0 to how "
+        + "many PEOPLE there are): how many say yes, told it, all being as now.")
     static void nobodyDrawsAndAllIsAsNow(Due d) {
         TruePoll x = Polls.ruled(8, "says own - 4 - round; sways 2;");
         for (int f = 0; f <= 8; f++) {
@@ -67,8 +67,8 @@ final class BoundsOfFigures {
         }
         d.same("nothing is done", Polls.seen(x), ahead);
         long[] some = {x.comes(3), x.ends(3, false), x.ends(3, true), x.till(3), x.leads(3), x.path(3, 3, 0), x.path(0, 3, 0),
-            x.win(3, false), x.win(3, true), x.two(3, 0, 0), x.two(0, 3, 1), x.two(0, 3, 2), x.split(3, 0), x.split(0, 3), x.mind(3, 0),
-            x.mind(0, 3), x.move(0, 3), x.cheapest(3)};
+            x.win(3, false), x.win(3, true), x.two(3, 0, 0), x.two(0, 3, 1), x.two(0, 3, 2), x.split(3, 0),
+            x.split(0, 3), x.mind(3, 0), x.mind(0, 3), x.move(0, 3), x.cheapest(3)};
         long[] due = {3, 3, 1, 0, 15, 0, 1, 0, 0, 3, 3, 1, 7, 0, 0, 0, 4, 0};
         for (int i = 0; i < some.length; i++) {
             d.is("call " + i + " with 3 of 3", some[i], due[i]);
@@ -96,7 +96,8 @@ final class BoundsOfFigures {
 
     // ---- promise 22
 
-    @Sentence(promise = 22, says = "FIRM: TRUE ones that also come of each figure one more or one less (if there is such).")
+    @Sentence(promise = 22, says = "FIRM: TRUE ones that also come of each figure one more or one less (if there is "
+        + "such).")
     static void firmOnesComeOfBothBeside(Due d) {
         d.is("of both", Polls.coming(1, 1, 1).firm(), 2);
         d.is("not of one more", Polls.coming(1, 1, 0).firm(), 0);
@@ -126,7 +127,8 @@ final class BoundsOfFigures {
 
     // ---- promises 23, 24
 
-    @Sentence(promise = 23, says = "WHERE IT ENDS: a figure, what comes of it, and so on, till one comes again: the ring from there on: its lowest figure, its size;")
+    @Sentence(promise = 23, says = "WHERE IT ENDS: a figure, what comes of it, and so on, till one comes again: the "
+        + "ring from there on: its lowest figure, its size;")
     static void ringsOfOneToNine(Due d) {
         for (int size = 1; size <= 9; size++) {
             int[] numbers = new int[9];
@@ -257,7 +259,8 @@ final class BoundsOfFigures {
         d.is("one of one", Polls.coming(1, 1).rings(), 1);
     }
 
-    @Sentence(promise = 27, says = "NEAREST: the figure from which what comes of it differs least; of like ones the lowest.")
+    @Sentence(promise = 27, says = "NEAREST: the figure from which what comes of it differs least; of like ones the "
+        + "lowest.")
     static void ofLikeOnesTheLowestIsNearest(Due d) {
         d.is("by 2 1 2", Polls.coming(2, 0, 0).nearest(), 1);
         d.is("by 1 1 1", Polls.coming(1, 2, 1).nearest(), 0);
@@ -278,8 +281,9 @@ final class BoundsOfFigures {
 
     // ---- promise 28
 
-    @Sentence(promise = 28, says = "A PATH from a figure to another one: the fewest tellings, in each a figure being told that differs by k at most (0: the same) "
-        + "from the one as it is, what comes of it being it then (0 to itself); none.")
+    @Sentence(promise = 28, says = "A PATH from a figure to another one: the fewest tellings, in each a figure being "
+        + "told that differs by k at most (0: the same) from the one as it is, what comes of it being it then (0 to "
+        + "itself); none.")
     static void thePathIsTheShortest(Due d) {
         TruePoll x = Polls.coming(1, 2, 3, 4, 5, 6, 7, 8, 8);
         int[] due = {8, 4, 3, 2, 2, 2, 2, 1, 1};
@@ -347,7 +351,8 @@ final class BoundsOfFigures {
 
     // ---- promise 29
 
-    @Sentence(promise = 29, says = "TO WIN: the fewest PEOPLE who, if they say yes whatever is told, make a figure TRUE; of like ones the lowest set; no way.")
+    @Sentence(promise = 29, says = "TO WIN: the fewest PEOPLE who, if they say yes whatever is told, make a figure "
+        + "TRUE; of like ones the lowest set; no way.")
     static void theLowestOfTheFewest(Due d) {
         TruePoll x = Polls.ruled(8, "says if who = 1 then 1 else 0 end;");
         int[] sets = {NONE, 0, 1, 1 + 4, 1 + 4 + 8, 1 + 4 + 8 + 16, 61, 125, 253};
@@ -388,8 +393,9 @@ final class BoundsOfFigures {
 
     // ---- promises 30, 31
 
-    @Sentence(promise = 30, says = "TWO FIGURES: some are told the first, all others the second: by all ways to part PEOPLE (all, nobody, too) how many say yes at fewest, at most; "
-        + "both are true, if as many say yes of those told the first as the first, of the others as the second;")
+    @Sentence(promise = 30, says = "TWO FIGURES: some are told the first, all others the second: by all ways to part "
+        + "PEOPLE (all, nobody, too) how many say yes at fewest, at most; both are true, if as many say yes of those "
+        + "told the first as the first, of the others as the second;")
     static void allAndNobodyAreWaysToPart(Due d) {
         // two who say yes by 1 and by 2, no by 0
         TruePoll x = Polls.people(2, 0, 1);
@@ -404,7 +410,8 @@ final class BoundsOfFigures {
         d.is("one is told 1, one 1", x.two(1, 1, 2), 2);
     }
 
-    @Sentence(promise = 30, says = "TWO FIGURES: 0 how many can say yes at fewest, 1 at most, 2 in how many ways both are true.")
+    @Sentence(promise = 30, says = "TWO FIGURES: 0 how many can say yes at fewest, 1 at most, 2 in how many ways both "
+        + "are true.")
     static void noneToAllWaysAreTrue(Due d) {
         TruePoll all = Polls.ruled(8, "says 1;");
         int[] ways = {1, 8, 28, 56, 70, 56, 28, 8, 1};
@@ -579,7 +586,8 @@ final class BoundsOfFigures {
         d.is("pair(true)", x.pair(true), other);
     }
 
-    @Sentence(promise = 35, says = "MOST ALIKE: the two by whom most; of like ones the lowest one, then the lowest other (fewer than two PEOPLE: none).")
+    @Sentence(promise = 35, says = "MOST ALIKE: the two by whom most; of like ones the lowest one, then the lowest "
+        + "other (fewer than two PEOPLE: none).")
     static void ofLikePairsTheLowest(Due d) {
         pair(d, Polls.people(8, 3, 1), 0, 1);
         pair(d, Polls.leaning(0, 9, 0, 0), 1, 2);
@@ -607,7 +615,8 @@ final class BoundsOfFigures {
 
     // ---- promises 36, 37
 
-    @Sentence(promise = 36, says = "TO MOVE one, by a figure: the LEAN nearest to its own (of like ones the lower) by which, all else being as now, it says otherwise itself; none.")
+    @Sentence(promise = 36, says = "TO MOVE one, by a figure: the LEAN nearest to its own (of like ones the lower) by "
+        + "which, all else being as now, it says otherwise itself; none.")
     static void theNearestLeanMovesIt(Due d) {
         for (int lean = 0; lean <= 9; lean++) {
             TruePoll steady = Polls.leaning(0, lean);
@@ -667,7 +676,8 @@ final class BoundsOfFigures {
         d.is("move(0, 0) of nobody", new TruePoll().move(0, 0), NONE);
     }
 
-    @Sentence(promise = 37, says = "CHEAPEST: what LEANS must change together at least, each as TO MOVE, so that as many say yes as the figure")
+    @Sentence(promise = 37, says = "CHEAPEST: what LEANS must change together at least, each as TO MOVE, so that as "
+        + "many say yes as the figure")
     static void theCheapestMove(Due d) {
         int[] tooMany = {10, 5, 3, 1, 0};
         TruePoll yes = Polls.leaning(0, 5, 9, 6, 6);
@@ -682,7 +692,8 @@ final class BoundsOfFigures {
         d.is("one by 9", far.cheapest(1), 9);
     }
 
-    @Sentence(promise = 37, says = "(each counted by its own change alone: of those who say yes just as many move as are too many, of those who say no as are lacking; 0, if as many do)")
+    @Sentence(promise = 37, says = "(each counted by its own change alone: of those who say yes just as many move as "
+        + "are too many, of those who say no as are lacking; 0, if as many do)")
     static void eachIsCountedByItsOwnChange(Due d) {
         TruePoll x = Polls.ruled(Polls.leaning(0, 5, 5, 5), "says lean 0 - 4;");
         d.is("0 moves itself", x.cheapest(2), 1);

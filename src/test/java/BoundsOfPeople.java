@@ -167,8 +167,8 @@ final class BoundsOfPeople {
 
     // ---- promise 15
 
-    @Sentence(promise = 15, says = "Of a PERSON: 0 LEAN, 1 SORT, 2 whom it hears (bits), 3 its latest ANSWER (1 yes, 0 no), "
-        + "4 sways, told yes, 5 told no.")
+    @Sentence(promise = 15, says = "Of a PERSON: 0 LEAN, 1 SORT, 2 whom it hears (bits), 3 its latest ANSWER (1 yes, "
+        + "0 no), 4 sways, told yes, 5 told no.")
     static void allOfThemCanBeHeardButItself(Due d) {
         TruePoll x = Polls.people(8, 4, 2);
         for (int p = 1; p <= 7; p++) {

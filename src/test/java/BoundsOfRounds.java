@@ -16,7 +16,8 @@ final class BoundsOfRounds {
 
     // ---- promise 9
 
-    @Sentence(promise = 9, says = "A ROUND, told a figure: PEOPLE by number say yes, if says (as all is ahead of the ROUND) is above 0, else no")
+    @Sentence(promise = 9, says = "A ROUND, told a figure: PEOPLE by number say yes, if says (as all is ahead of the "
+        + "ROUND) is above 0, else no")
     static void yesIsAboveNought(Due d) {
         // from X 449 on of eight only 5 draws 0
         TruePoll x = Polls.ruled(8, "says who - 3;");
@@ -54,7 +55,8 @@ final class BoundsOfRounds {
         return x.tell(0);
     }
 
-    @Sentence(promise = 9, says = "a draw by 20 each (X mod 20, X becoming (X * 709 + 577) mod 31033 behind it): 0: the other one.")
+    @Sentence(promise = 9, says = "a draw by 20 each (X mod 20, X becoming (X * 709 + 577) mod 31033 behind it): 0: "
+        + "the other one.")
     static void zeroOfTwentySaysTheOther(Due d) {
         // one year of nobody sets X: by SEED 2839 to 0, 9886 to 20, 4743 to 1, 7982 to 19, 935 to 31032
         d.is("X 0, no", toldFrom(2839, "says 0;"), 1);
@@ -93,7 +95,8 @@ final class BoundsOfRounds {
         }
     }
 
-    @Sentence(promise = 9, says = "Then LEAN of each is more by sways (yes being its ANSWER of this ROUND, all else as ahead of the ROUND; held 0 .. 9).")
+    @Sentence(promise = 9, says = "Then LEAN of each is more by sways (yes being its ANSWER of this ROUND, all else "
+        + "as ahead of the ROUND; held 0 .. 9).")
     static void leansAreHeld(Due d) {
         TruePoll x = Polls.leaning(0, 7, 8, 9, 0, 5, 1, 6, 3);
         Polls.ruled(x, "says 1; sways if yes = 1 then 2 else -2 end;");
@@ -309,7 +312,8 @@ final class BoundsOfRounds {
         d.is("SEED 9999: a ROUND", x.years(9999, 1), 4);
     }
 
-    @Sentence(promise = 13, says = "X is SEED (0 .. 9999) * 2 + 449; n times (1 .. 40): x is X, then X is anew (as in a draw)")
+    @Sentence(promise = 13, says = "X is SEED (0 .. 9999) * 2 + 449; n times (1 .. 40): x is X, then X is anew (as in "
+        + "a draw)")
     static void theSeedSetsX(Due d) {
         int[][] due = {{0, 1, 8588}, {9999, 1, 5089}, {0, 40, 30628}, {9999, 40, 16057}, {2839, 1, 0}, {935, 1, 31032}};
         for (int[] one : due) {
@@ -425,7 +429,8 @@ final class BoundsOfRounds {
 
     // ---- promise 14
 
-    @Sentence(promise = 14, says = "STEPS: TOLD, NUDGED, a ROUND (each), YEARS (see V): the latest 30 can be taken back, the latest first")
+    @Sentence(promise = 14, says = "STEPS: TOLD, NUDGED, a ROUND (each), YEARS (see V): the latest 30 can be taken "
+        + "back, the latest first")
     static void thirtyStepsCanBeTakenBack(Due d) {
         TruePoll x = Polls.people(1, 4, 0);
         for (int i = 1; i <= 29; i++) {
@@ -497,7 +502,8 @@ final class BoundsOfRounds {
         d.is("30 at most", x.about(3), 30);
     }
 
-    @Sentence(promise = 14, says = "the latest 30 can be taken back, the latest first (LEANS, ANSWERS, FIGURE, ROUND, X, BOOK are as ahead of it;")
+    @Sentence(promise = 14, says = "the latest 30 can be taken back, the latest first (LEANS, ANSWERS, FIGURE, ROUND, "
+        + "X, BOOK are as ahead of it;")
     static void stepsComeAroundAndBack(Due d) {
         TruePoll x = Polls.ruled(8, "says own - figure; sways if yes = 1 then -1 else 1 end;");
         Deque<String> ahead = new ArrayDeque<>();
@@ -665,7 +671,8 @@ final class BoundsOfRounds {
         }
     }
 
-    @Sentence(promise = 18, says = "the i-th, from the eldest on: 0 ROUND, 1 the figure that was told, 2 the FIGURE then.")
+    @Sentence(promise = 18, says = "the i-th, from the eldest on: 0 ROUND, 1 the figure that was told, 2 the FIGURE "
+        + "then.")
     static void theRoundIsTheOneThatPassed(Due d) {
         TruePoll x = Polls.at(9998, Polls.ruled(2, "says 1;"));
         x.tell(2);
@@ -700,7 +707,8 @@ final class BoundsOfRounds {
 
     // ---- promise 19
 
-    @Sentence(promise = 19, says = "FORETOLD behind n ROUNDS (1 .. 60; those that can pass), each told the FIGURE as it is then.")
+    @Sentence(promise = 19, says = "FORETOLD behind n ROUNDS (1 .. 60; those that can pass), each told the FIGURE as "
+        + "it is then.")
     static void whatIsForetoldComes(Due d) {
         for (int n : new int[] {1, 2, 30, 31, 59, 60}) {
             TruePoll x = Polls.ruled(8, "says own - figure; sways if yes = 1 then heard - 2 else 1 end;");

@@ -282,11 +282,13 @@ final class BoundsOfTexts {
         faulty(d, times(60, "up 0;"), 6, 120);
     }
 
-    @Sentence(promise = 6, says = "says SUM ; or sways SUM ; (each once) or person NUMBER sort NUMBER ; (LEAN) or hear NUMBER from NUMBER ; (who, whom) "
-        + "or tell NUMBER ; or up NUMBER ; or down NUMBER ; (a PERSON NUDGED by 1, -1) or day NUMBER ;")
+    @Sentence(promise = 6, says = "says SUM ; or sways SUM ; (each once) or person NUMBER sort NUMBER ; (LEAN) or "
+        + "hear NUMBER from NUMBER ; (who, whom) or tell NUMBER ; or up NUMBER ; or down NUMBER ; (a PERSON NUDGED by "
+        + "1, -1) or day NUMBER ;")
     static void eachClauseIsDoneOnce(Due d) {
         TruePoll x = new TruePoll();
-        d.is("text()", Feeder.read(x, "person 9 sort 2;person 0 sort 3;hear 1 from 0;down 0;up 1;tell 2;day 3;sways 2;says 1;"), 0);
+        d.is("text()", Feeder.read(x,
+            "person 9 sort 2;person 0 sort 3;hear 1 from 0;down 0;up 1;tell 2;day 3;sways 2;says 1;"), 0);
         d.is("played(0)", x.played(0), NONE);
         d.is("LEAN of 0", x.of(0, 0), 8);
         d.is("SORT of 0", x.of(0, 1), 2);
@@ -317,13 +319,14 @@ final class BoundsOfTexts {
         faulty(d, "says 1 * / 1;", 1, 9);
     }
 
-    @Sentence(promise = 6, says = "ONE: NUMBER, NAME, ( SUM ), - ONE, lean ONE (LEAN of the PERSON of that number; 0 for others)")
+    @Sentence(promise = 6, says = "ONE: NUMBER, NAME, ( SUM ), - ONE, lean ONE (LEAN of the PERSON of that number; 0 "
+        + "for others)")
     static void leanOfOthersIs0(Due d) {
         worth(d, "lean 0", 2);
         worth(d, "lean 1", 9);
         worth(d, "lean 2", 7);
-        for (String other : new String[] {"3", "7", "8", "9", "31", "32", "33", "34", "64", "256", "9999", "-1", "-2", "-32", "-9999",
-            "(9999 * 9999)", "(-9999 * 9999)"}) {
+        for (String other : new String[] {"3", "7", "8", "9", "31", "32", "33", "34", "64", "256", "9999", "-1", "-2",
+            "-32", "-9999", "(9999 * 9999)", "(-9999 * 9999)"}) {
             worth(d, "lean " + other, 0);
         }
         worth(d, "lean 0 + 1", 3);
@@ -341,8 +344,8 @@ final class BoundsOfTexts {
         worth(d, "said 0", 0);
         worth(d, "said 1", 1);
         worth(d, "said 2", 1);
-        for (String other : new String[] {"3", "7", "8", "31", "32", "33", "34", "64", "65", "66", "9999", "-1", "-30", "-31", "-62",
-            "(9999 * 9999)", "(-9999 * 9999)"}) {
+        for (String other : new String[] {"3", "7", "8", "31", "32", "33", "34", "64", "65", "66", "9999", "-1",
+            "-30", "-31", "-62", "(9999 * 9999)", "(-9999 * 9999)"}) {
             worth(d, "said " + other, 0);
         }
         worth(d, "said 1 + 1", 2);
@@ -403,8 +406,9 @@ final class BoundsOfTexts {
         faulty(d, "says if not then 1 else 2 end;", 1, 12);
     }
 
-    @Sentence(promise = 6, says = "NAMES: round, who, own (its LEAN), sort, people (how many there are), heard (of those it hears how many said yes latest), "
-        + "figure (that is told) in both; yes (1, if it says yes, else 0) in sways.")
+    @Sentence(promise = 6, says = "NAMES: round, who, own (its LEAN), sort, people (how many there are), heard (of "
+        + "those it hears how many said yes latest), figure (that is told) in both; yes (1, if it says yes, else 0) "
+        + "in sways.")
     static void eachNameInBoth(Due d) {
         worth(d, "round", 1);
         worth(d, "who", 2);
@@ -488,7 +492,8 @@ final class BoundsOfTexts {
 
     // ---- promise 7
 
-    @Sentence(promise = 7, says = "Of the latest text that was read: 0 its FAULT (0 without), 1 its place (NONE without).")
+    @Sentence(promise = 7, says = "Of the latest text that was read: 0 its FAULT (0 without), 1 its place (NONE "
+        + "without).")
     static void theLatestThatWasRead(Due d) {
         TruePoll x = new TruePoll();
         Feeder.read(x, "up 0;tell 9;");
@@ -529,7 +534,8 @@ final class BoundsOfTexts {
         d.is("fault(1)", x.fault(1), 0);
     }
 
-    @Sentence(promise = 7, says = "FAULTS, the first as TOKENS are come to, at the TOKEN's first byte (of the end at the length), of one the least")
+    @Sentence(promise = 7, says = "FAULTS, the first as TOKENS are come to, at the TOKEN's first byte (of the end at "
+        + "the length), of one the least")
     static void theFirstAndOfOneTheLeast(Due d) {
         faulty(d, "up 8; says yes; foo", 2, 3);
         faulty(d, "says yes; up 8;", 5, 5);
@@ -555,13 +561,13 @@ final class BoundsOfTexts {
 
     @Sentence(promise = 7, says = "1 it can't stand there, or is none.")
     static void itCannotStandThere(Due d) {
-        for (String word : new String[] {"sort", "from", "lean", "said", "if", "then", "else", "end", "or", "and", "not", "round", "who",
-            "own", "people", "heard", "figure", "yes", "7", ";", "(", "foo", "!"}) {
+        for (String word : new String[] {"sort", "from", "lean", "said", "if", "then", "else", "end", "or", "and",
+            "not", "round", "who", "own", "people", "heard", "figure", "yes", "7", ";", "(", "foo", "!"}) {
             faulty(d, word + " 1;", 1, 0);
             faulty(d, "up 1;" + word + " 1;", 1, 5);
         }
-        for (String word : new String[] {"says", "sways", "person", "hear", "from", "tell", "up", "down", "day", "then", "else", "end", "or",
-            "and", "not", "*", "/", "+", "<", "=", ")", ";", "foo", "?"}) {
+        for (String word : new String[] {"says", "sways", "person", "hear", "from", "tell", "up", "down", "day",
+            "then", "else", "end", "or", "and", "not", "*", "/", "+", "<", "=", ")", ";", "foo", "?"}) {
             faulty(d, "says " + word + ";", 1, 5);
             faulty(d, "sways (" + word + ");", 1, 7);
         }
@@ -577,7 +583,8 @@ final class BoundsOfTexts {
         faulty(d, "up 1,", 1, 4);
     }
 
-    @Sentence(promise = 7, says = "2 a NUMBER that isn't one of those told (above 9999; LEAN 0 .. 9, SORT 0 .. 3, PEOPLE 0 .. 7, figures 0 .. 8, ROUNDS 1 .. 60).")
+    @Sentence(promise = 7, says = "2 a NUMBER that isn't one of those told (above 9999; LEAN 0 .. 9, SORT 0 .. 3, "
+        + "PEOPLE 0 .. 7, figures 0 .. 8, ROUNDS 1 .. 60).")
     static void numbersThatAreNotTold(Due d) {
         String[] ahead = {"person ", "person 9 sort ", "hear ", "hear 7 from ", "tell ", "up ", "down ", "day "};
         String[] behind = {" sort 3;", ";", " from 7;", ";", ";", ";", ";", ";"};
@@ -598,7 +605,8 @@ final class BoundsOfTexts {
         faulty(d, "says 1 + lean 10000;", 2, 14);
     }
 
-    @Sentence(promise = 7, says = "3 the 9th of ( not lean said if and - (of one ONE) that are open around one another (at it).")
+    @Sentence(promise = 7, says = "3 the 9th of ( not lean said if and - (of one ONE) that are open around one "
+        + "another (at it).")
     static void eightCanBeOpen(Due d) {
         for (String one : new String[] {"(", "-", "lean ", "said "}) {
             String closing = one.equals("(") ? ")" : "";
@@ -623,8 +631,9 @@ final class BoundsOfTexts {
     @Sentence(promise = 7, says = "that are open around one another (at it)")
     static void openAroundOneAnother(Due d) {
         // an if is open in all its parts and closed by its end; a not is closed behind its ASK
-        for (String part : new String[] {"if %s = 1 then 1 else 1 end", "if 1 = %s then 1 else 1 end", "if 1 = 1 then %s else 1 end",
-            "if 1 = 1 then 1 else %s end", "if 1 = 1 or 1 = 1 and %s = 1 then 1 else 1 end"}) {
+        for (String part : new String[] {"if %s = 1 then 1 else 1 end", "if 1 = %s then 1 else 1 end",
+            "if 1 = 1 then %s else 1 end", "if 1 = 1 then 1 else %s end",
+            "if 1 = 1 or 1 = 1 and %s = 1 then 1 else 1 end"}) {
             sound(d, "says " + part.replace("%s", "(((((((1)))))))") + ";");
             faulty(d, "says " + part.replace("%s", "((((((((1))))))))") + ";", 3, 5 + part.indexOf('%') + 7);
         }
@@ -725,9 +734,11 @@ final class BoundsOfTexts {
 
     // ---- promise 12
 
-    @Sentence(promise = 12, says = "PLAYED by a TEXT: its CLAUSES but laws, in their order, as by hand; one that can't be ends it")
+    @Sentence(promise = 12, says = "PLAYED by a TEXT: its CLAUSES but laws, in their order, as by hand; one that "
+        + "can't be ends it")
     static void whatCannotBeEndsIt(Due d) {
-        String[] texts = {"up 2;", "down 2;", "up 0;up 0;up 0;", "down 1;down 1;", "hear 0 from 0;", "hear 2 from 0;", "hear 0 from 2;", "tell 3;"};
+        String[] texts = {"up 2;", "down 2;", "up 0;up 0;up 0;", "down 1;down 1;", "hear 0 from 0;", "hear 2 from 0;",
+            "hear 0 from 2;", "tell 3;"};
         int[] due = {0, 0, 1, 1, 0, 0, 0, 0};
         for (int i = 0; i < texts.length; i++) {
             TruePoll x = Polls.leaning(0, 8, 1);

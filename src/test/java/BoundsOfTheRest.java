@@ -12,8 +12,8 @@ final class BoundsOfTheRest {
         d.is("sure(" + k + ", " + odds + ", true)", x.sure(k, odds, true), lower);
     }
 
-    @Sentence(promise = 38, says = "HOW SURE: told the FIGURE as it is, each says the other one by odds of 10, alike and apart from one another: "
-        + "how likely just k say yes, in lowest terms;")
+    @Sentence(promise = 38, says = "HOW SURE: told the FIGURE as it is, each says the other one by odds of 10, alike "
+        + "and apart from one another: how likely just k say yes, in lowest terms;")
     static void likelihoodsAreInLowestTerms(Due d) {
         TruePoll all = Polls.ruled(8, "says 1;");
         sure(d, all, 8, 1, 43046721, 100000000);
@@ -120,7 +120,8 @@ final class BoundsOfTheRest {
         return x;
     }
 
-    @Sentence(promise = 40, says = "WHO IS HEARD by one: whom it hears, whom they hear, .. (itself, if it comes back to it).")
+    @Sentence(promise = 40, says = "WHO IS HEARD by one: whom it hears, whom they hear, .. (itself, if it comes back "
+        + "to it).")
     static void hearingGoesOnToTheEnd(Due d) {
         TruePoll x = row();
         for (int p = 0; p <= 7; p++) {
@@ -232,8 +233,8 @@ final class BoundsOfTheRest {
 
     // ---- promise 43
 
-    @Sentence(promise = 43, says = "WHAT PARTS MOST: of figures that by which TEXTS say unlike numbers of yes, as many unlike ones as can be; "
-        + "of like ones the lowest (0 without TEXTS).")
+    @Sentence(promise = 43, says = "WHAT PARTS MOST: of figures that by which TEXTS say unlike numbers of yes, as "
+        + "many unlike ones as can be; of like ones the lowest (0 without TEXTS).")
     static void asManyUnlikeAsCanBe(Due d) {
         TruePoll x = Polls.people(4, 5, 0);
         d.is("without TEXTS", x.part(), 0);
@@ -293,9 +294,10 @@ final class BoundsOfTheRest {
         return x;
     }
 
-    @Sentence(promise = 44, says = "A GAME of n ROUNDS: by turns one who wishes for as much and one who wishes for as little as can be tells a figure one more, one less or "
-        + "the same as the FIGURE (if there is such; at first as it is now), WHAT COMES of it is the FIGURE then (all else as now): the FIGURE behind all, "
-        + "if both choose as well as can be, the first wishing for much.")
+    @Sentence(promise = 44, says = "A GAME of n ROUNDS: by turns one who wishes for as much and one who wishes for as "
+        + "little as can be tells a figure one more, one less or the same as the FIGURE (if there is such; at first "
+        + "as it is now), WHAT COMES of it is the FIGURE then (all else as now): the FIGURE behind all, if both "
+        + "choose as well as can be, the first wishing for much.")
     static void theFirstWishesForMuch(Due d) {
         TruePoll x = standing(4);
         for (int n = 0; n <= 8; n++) {
@@ -391,7 +393,8 @@ final class BoundsOfTheRest {
 
     // ---- promises 46 to 49
 
-    @Sentence(promise = 46, says = "PARTIES (8 at most; told: from a figure to a figure, 0 .. 8): each lives by figures from the one to the other.")
+    @Sentence(promise = 46, says = "PARTIES (8 at most; told: from a figure to a figure, 0 .. 8): each lives by "
+        + "figures from the one to the other.")
     static void eightPartiesAtMost(Due d) {
         TruePoll x = new TruePoll();
         for (int i = 1; i <= 8; i++) {
@@ -428,9 +431,9 @@ final class BoundsOfTheRest {
         d.is("party(8, 8)", x.party(8, 8), 2);
         d.is("party(0, 8)", x.party(0, 8), 3);
         String ahead = Polls.seen(x);
-        int[][] wrong = {{-2, 0}, {-2, 8}, {-2, -2}, {1, 0}, {8, 7}, {5, 4}, {0, -1}, {0, -2}, {0, 9}, {8, 9}, {9, 9}, {9, 8}, {9, 0},
-            {Polls.LOW, 0}, {0, Polls.LOW}, {Polls.LOW, Polls.LOW}, {0, Polls.HIGH}, {Polls.HIGH, Polls.HIGH}, {Polls.HIGH, 8},
-            {Polls.LOW, Polls.HIGH}, {32, 40}, {0, 31}, {0, 32}};
+        int[][] wrong = {{-2, 0}, {-2, 8}, {-2, -2}, {1, 0}, {8, 7}, {5, 4}, {0, -1}, {0, -2}, {0, 9}, {8, 9}, {9, 9},
+            {9, 8}, {9, 0}, {Polls.LOW, 0}, {0, Polls.LOW}, {Polls.LOW, Polls.LOW}, {0, Polls.HIGH},
+            {Polls.HIGH, Polls.HIGH}, {Polls.HIGH, 8}, {Polls.LOW, Polls.HIGH}, {32, 40}, {0, 31}, {0, 32}};
         for (int[] w : wrong) {
             d.is("party(" + w[0] + ", " + w[1] + ")", x.party(w[0], w[1]), -2);
         }
@@ -505,7 +508,8 @@ final class BoundsOfTheRest {
         d.is("fewest(true)", x.fewest(true), many);
     }
 
-    @Sentence(promise = 49, says = "FEWEST figures (0 .. 8; bits) so that each PARTY lives by one of them; of like ones the lowest set (without PARTIES 0).")
+    @Sentence(promise = 49, says = "FEWEST figures (0 .. 8; bits) so that each PARTY lives by one of them; of like "
+        + "ones the lowest set (without PARTIES 0).")
     static void theLowestOfTheFewestSets(Due d) {
         TruePoll x = new TruePoll();
         fewest(d, x, 0, 0);
@@ -571,9 +575,9 @@ final class BoundsOfTheRest {
         d.is("97/98 at 2", x.decimal(97, 98, 2), 9);
     }
 
-    private static final int[][] NO_PARTS = {{-1, 99}, {-1, 1}, {1, 1}, {2, 1}, {98, 98}, {99, 99}, {99, 98}, {99, 100}, {98, 100}, {0, 100}, {0, 0},
-        {1, 0}, {-1, 0}, {0, -1}, {-2, -1}, {Polls.LOW, 1}, {0, Polls.LOW}, {Polls.LOW, Polls.LOW}, {0, Polls.HIGH}, {Polls.HIGH, Polls.HIGH},
-        {Polls.HIGH, 99}, {Polls.LOW, Polls.HIGH}};
+    private static final int[][] NO_PARTS = {{-1, 99}, {-1, 1}, {1, 1}, {2, 1}, {98, 98}, {99, 99}, {99, 98},
+        {99, 100}, {98, 100}, {0, 100}, {0, 0}, {1, 0}, {-1, 0}, {0, -1}, {-2, -1}, {Polls.LOW, 1}, {0, Polls.LOW},
+        {Polls.LOW, Polls.LOW}, {0, Polls.HIGH}, {Polls.HIGH, Polls.HIGH}, {Polls.HIGH, 99}, {Polls.LOW, Polls.HIGH}};
 
     @Sentence(promise = 50, says = "NONE for others (part 0 .. 98, below whole; whole 1 .. 99; i 0 .. 999).")
     static void otherDecimalsAreNone(Due d) {
@@ -592,8 +596,8 @@ final class BoundsOfTheRest {
         d.is("decimals(" + part + ", " + whole + ", true)", x.decimals(part, whole, true), ring);
     }
 
-    @Sentence(promise = 51, says = "how many there are ahead of the ring of those that come again and again; how many are in the ring "
-        + "(0 alone is such a ring: of 1 by 4, 0.25 and 0 on, 2 and 1).")
+    @Sentence(promise = 51, says = "how many there are ahead of the ring of those that come again and again; how many "
+        + "are in the ring (0 alone is such a ring: of 1 by 4, 0.25 and 0 on, 2 and 1).")
     static void zeroAloneIsARing(Due d) {
         TruePoll x = new TruePoll();
         decimals(d, x, 1, 4, 2, 1);
@@ -804,8 +808,8 @@ final class BoundsOfTheRest {
         d.is("whose()", x.whose(), 1);
     }
 
-    @Sentence(promise = 56, says = "WHOSE LAW (told: SAID, 8 at most: a figure, how many say yes, 0 .. 8 each): TEXTS (bits) by whose says (a TEXT without it: "
-        + "by what is so without) all come so (as now).")
+    @Sentence(promise = 56, says = "WHOSE LAW (told: SAID, 8 at most: a figure, how many say yes, 0 .. 8 each): TEXTS "
+        + "(bits) by whose says (a TEXT without it: by what is so without) all come so (as now).")
     static void allThatWasSaidMustCome(Due d) {
         TruePoll x = Polls.people(8, 5, 0);
         d.is("without TEXTS", x.whose(), 0);
@@ -1135,7 +1139,8 @@ final class BoundsOfTheRest {
         d.is("LEAN", x.of(0, 0), 4);
     }
 
-    @Sentence(promise = 62, says = "0 PEOPLE, 1 TEXTS, 2 THE TEXT (NONE), 3 STEPS that can be taken back, 4 SAID, 5 bytes of the tape.")
+    @Sentence(promise = 62, says = "0 PEOPLE, 1 TEXTS, 2 THE TEXT (NONE), 3 STEPS that can be taken back, 4 SAID, 5 "
+        + "bytes of the tape.")
     static void noneAndAllOfThem(Due d) {
         TruePoll x = new TruePoll();
         int[] first = {0, 0, NONE, 0, 0, 0};
