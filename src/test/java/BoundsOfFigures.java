@@ -482,6 +482,26 @@ final class BoundsOfFigures {
         d.is("split(0, 0)", x.split(0, 0), 0);
     }
 
+    @Sentence(promise = 31, says = "NONE: no way, and for others.")
+    static void figuresOfThoseNoLongerThereAreOthers(Due d) {
+        TruePoll x = Polls.people(4, 9, 0);
+        x.image();
+        for (int p = 4; p < 8; p++) {
+            x.person(9, 0);
+        }
+        for (int f = 0; f <= 8; f++) {
+            d.is("split(" + f + ", " + (8 - f) + ") of eight", x.split(f, 8 - f), (1 << f) - 1);
+        }
+        x.back();
+        for (int f = 0; f <= 8; f++) {
+            d.is("split(" + f + ", " + (8 - f) + ") of four", x.split(f, 8 - f), NONE);
+            d.is("two(" + f + ", " + (8 - f) + ", 2) of four", x.two(f, 8 - f, 2), f == 4 ? 0 : NONE);
+        }
+        for (int f = 0; f <= 4; f++) {
+            d.is("split(" + f + ", " + (4 - f) + ") of four", x.split(f, 4 - f), (1 << f) - 1);
+        }
+    }
+
     // ---- promises 32, 33
 
     @Sentence(promise = 32, says = "WHO MINDS: who says otherwise by the one figure than by the other.")
@@ -529,6 +549,16 @@ final class BoundsOfFigures {
         unasked(d, Polls.ruled(8, "says figure - 7;"), 0, 8);
         unasked(d, Polls.ruled(8, "says figure + 1;"), 8, 8);
         unasked(d, Polls.ruled(8, "says figure;"), 0, 8);
+    }
+
+    @Sentence(promise = 33, says = "how many say yes by all figures; how many by any.")
+    static void eachFigureCounts(Due d) {
+        for (int f = 0; f <= 8; f++) {
+            unasked(d, Polls.ruled(8, "says if figure = " + f + " then 0 else 1 end;"), 0, 8);
+            unasked(d, Polls.ruled(8, "says if figure = " + f + " then 1 else 0 end;"), 0, 8);
+            unasked(d, Polls.ruled(8, "says if figure = " + f + " then 3 - who else 1 end;"), 3, 8);
+            unasked(d, Polls.ruled(8, "says if figure = " + f + " then 3 - who else 0 end;"), 0, 3);
+        }
     }
 
     @Sentence(promise = 33, says = "UNASKED: at fewest (most false), at most (most true).")
@@ -714,6 +744,20 @@ final class BoundsOfFigures {
         d.is("cheapest(1): 3 to 4", x.cheapest(1), 1);
         d.is("cheapest(2)", x.cheapest(2), 0);
         d.is("cheapest(0) of nobody", new TruePoll().cheapest(0), 0);
+    }
+
+    @Sentence(promise = 37, says = "of those who say yes just as many move as are too many, of those who say no as "
+        + "are lacking")
+    static void thoseNoLongerThereDoNotMove(Due d) {
+        TruePoll x = Polls.people(4, 0, 1);
+        x.image();
+        for (int p = 4; p < 8; p++) {
+            x.person(4, 0);
+        }
+        d.is("cheapest(3): three of the last four move by 1", x.cheapest(3), 3);
+        x.back();
+        d.is("cheapest(1): the four who are there can't", x.cheapest(1), NONE);
+        d.is("cheapest(3)", x.cheapest(3), NONE);
     }
 
     @Sentence(promise = 37, says = "NONE: none, and for others.")

@@ -723,6 +723,20 @@ final class BoundsOfRounds {
         }
     }
 
+    @Sentence(promise = 19, says = "FORETOLD behind n ROUNDS")
+    static void itIsForetoldFromXAsItIs(Due d) {
+        for (int seed = 0; seed <= 9999; seed += 101) {
+            TruePoll x = Polls.ruled(8, "says own - figure; sways if yes = 1 then 0 - 1 else 1 end;");
+            x.years(seed, 1 + seed % 40);
+            int first = x.foretold(1, 1);
+            int answers = x.foretold(9, 1);
+            d.is("day(1) behind years(" + seed + ", ..)", x.day(1), Integer.bitCount(first));
+            d.is("ANSWERS", x.is(3), first);
+            d.is("day(8)", x.day(8), Integer.bitCount(answers));
+            d.is("ANSWERS", x.is(3), answers);
+        }
+    }
+
     @Sentence(promise = 19, says = "(1 .. 60; those that can pass)")
     static void roundsThatCannotPassAreNotForetold(Due d) {
         TruePoll x = Polls.at(9940, Polls.ruled(8, "says figure - 4;"));

@@ -583,6 +583,23 @@ final class BoundsOfTexts {
         faulty(d, "up 1,", 1, 4);
     }
 
+    @Sentence(promise = 7, says = "1 it can't stand there, or is none.")
+    static void bytesOfNoTokenStandNowhere(Due d) {
+        String ofTokens = " \n<>=#+-*/();";
+        for (char b = 0; b < 256; b++) {
+            boolean letter = b >= 'a' && b <= 'z' || b >= 'A' && b <= 'Z';
+            boolean digit = b >= '0' && b <= '9';
+            if (letter || digit || ofTokens.indexOf(b) >= 0) {
+                continue;
+            }
+            faulty(d, b + "up 1;", 1, 0);
+            faulty(d, "says " + b + "1;", 1, 5);
+            faulty(d, "says 1" + b + "2;", 1, 6);
+            faulty(d, "says if 1" + b + "2 then 3 else 4 end;", 1, 9);
+            faulty(d, "up 1;" + b, 1, 5);
+        }
+    }
+
     @Sentence(promise = 7, says = "2 a NUMBER that isn't one of those told (above 9999; LEAN 0 .. 9, SORT 0 .. 3, "
         + "PEOPLE 0 .. 7, figures 0 .. 8, ROUNDS 1 .. 60).")
     static void numbersThatAreNotTold(Due d) {

@@ -325,6 +325,21 @@ final class BoundsOfTheRest {
         d.is("choice(1) from 0", bottom.choice(1), 1);
     }
 
+    @Sentence(promise = 44, says = "tells a figure one more, one less or the same as the FIGURE (if there is such;")
+    static void below0ThereIsNothingToTell(Due d) {
+        TruePoll x = standing(3);
+        Polls.ruled(x, "says if figure < 2 then 1 - who else 0 end;");
+        d.is("game(1) from 3: 0 comes of 2, 3 and 4", x.game(1), 0);
+        d.is("game(2): 1 comes of all that the second can tell, 0 and 1", x.game(2), 1);
+        d.is("choice(2)", x.choice(2), 2);
+        d.is("game(3): from 1 the first tells 0 or 1", x.game(3), 1);
+        TruePoll y = standing(5);
+        Polls.ruled(y, "says if figure > 6 then 7 - who else if figure > 3 then 1 else figure end end;");
+        d.is("game(1) from 5: 8 comes of 4, 5 and 6", y.game(1), 8);
+        d.is("game(2): 7 comes of all that the second can tell, 7 and 8", y.game(2), 7);
+        d.is("choice(2)", y.choice(2), 4);
+    }
+
     @Sentence(promise = 44, says = "(0 ROUNDS: the FIGURE as it is.)")
     static void aGameOf0Rounds(Due d) {
         d.is("game(0) from 8", standing(8).game(0), 8);
@@ -746,6 +761,17 @@ final class BoundsOfTheRest {
         }
     }
 
+    @Sentence(promise = 54, says = "BUSIEST: from which so many have most;")
+    static void eachVillageCanBeTheBusiest(Due d) {
+        for (int village = 0; village <= 9; village++) {
+            TruePoll x = new TruePoll();
+            x.village(village, 3);
+            x.village((village + 1) % 10, 2);
+            d.is("busiest(1) with most in " + village, x.busiest(1), village);
+            d.is("busiest(2) with most in " + village, x.busiest(2), village);
+        }
+    }
+
     @Sentence(promise = 54, says = "BUSIEST.")
     static void ofLikeVillagesTheLowest(Due d) {
         TruePoll x = new TruePoll();
@@ -863,6 +889,16 @@ final class BoundsOfTheRest {
         d.is("all by yes", all.honest(), 255);
         d.is("all by no", Polls.people(8, 4, 0).honest(), 255);
         d.is("none who go with it", Polls.people(8, 0, 1).honest(), 0);
+    }
+
+    @Sentence(promise = 57, says = "who says the same by all figures (bits).")
+    static void eachFigureIsATest(Due d) {
+        for (int f = 0; f <= 8; f++) {
+            TruePoll x = Polls.ruled(8, "says if figure = " + f + " then 3 - who else 1 end;");
+            d.is("by " + f + " alone 3 and on say no", x.honest(), 7);
+            TruePoll y = Polls.ruled(8, "says if figure = " + f + " then 3 - who else 0 end;");
+            d.is("by " + f + " alone 0, 1 and 2 say yes", y.honest(), 248);
+        }
     }
 
     @Sentence(promise = 57, says = "HONEST (bits).")

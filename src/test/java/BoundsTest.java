@@ -14,6 +14,7 @@ public final class BoundsTest {
         sentences.ask(BoundsOfRounds.class);
         sentences.ask(BoundsOfFigures.class);
         sentences.ask(BoundsOfTheRest.class);
+        sentences.ask(BoundsOfChanges.class);
         sentences.areAllNamed();
         due.close();
     }

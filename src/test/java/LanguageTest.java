@@ -6,7 +6,10 @@ import java.lang.reflect.Modifier;
 import java.nio.file.Files;
 import java.nio.file.Path;
 import java.util.Arrays;
+import java.util.HashMap;
+import java.util.Map;
 import java.util.Set;
+import java.util.TreeMap;
 import java.util.TreeSet;
 import java.util.regex.Matcher;
 import java.util.regex.Pattern;
@@ -14,6 +17,13 @@ import java.util.regex.Pattern;
 /** Those rules of ../shared/LANGUAGE.md that can be seen from the outside or from the bare text. */
 public final class LanguageTest {
     private static final Due DUE = new Due("LanguageTest");
+    /** Where a method begins, its name being the second group, or a constructor, which has none. */
+    private static final Pattern HEAD =
+        Pattern.compile("( {4}| {8})(?:public |private |static |final )*[\\w\\[\\]]+(?: (\\w+))?\\(.*\\{\\s*");
+    /** The grammar's own recursion, which carries its depth along. */
+    private static final Set<String> READING = Set.of("readSum", "readProduct", "readOne", "readIf", "readEither",
+        "readBoth", "readAsk", "readComparison");
+    private static final int DEEPEST = 8;
 
     private LanguageTest() {
     }
@@ -24,7 +34,9 @@ public final class LanguageTest {
         face(doc);
         classes();
         words(bare(source));
-        lengths(bare(source));
+        Map<String, String> bodies = bodies(bare(source));
+        areAllSeen(bodies);
+        depths(bodies);
         DUE.yes("texts are not joined by +", !Pattern.compile("\"\\s*\\+|\\+\\s*\"").matcher(source).find());
         DUE.yes("signs are below 128", source.chars().allMatch(c -> c < 128));
         DUE.close();
@@ -136,21 +148,83 @@ public final class LanguageTest {
     }
 
     // rule 11
-    private static void lengths(String bare) {
+    /** Of each method's name: its text. Methods of one name in two classes count as one, which only makes chains longer. */
+    private static Map<String, String> bodies(String bare) {
         String[] lines = bare.split("\n", -1);
-        int methods = 0;
+        Map<String, String> bodies = new TreeMap<>();
         for (int i = 0; i < lines.length; i++) {
-            boolean head = lines[i].matches("( {4}| {8})(public |private |static |final )*[\\w\\[\\]]+ ?\\w*\\(.*\\{\\s*");
-            if (head) {
-                String closing = lines[i].replaceAll("^( *).*", "$1}");
+            Matcher head = HEAD.matcher(lines[i]);
+            if (head.matches()) {
+                StringBuilder body = new StringBuilder();
                 int to = i;
-                while (to < lines.length && !lines[to].stripTrailing().equals(closing)) {
+                while (to < lines.length && !lines[to].stripTrailing().equals(head.group(1) + "}")) {
+                    body.append(to == i ? "" : lines[to]).append('\n');
                     to++;
                 }
-                methods++;
                 DUE.yes("sixty lines at most: " + lines[i].trim(), to - i < 60);
+                bodies.merge(head.group(2) == null ? "(constructors)" : head.group(2), body.toString(), String::concat);
             }
         }
-        DUE.yes("the methods were seen: " + methods, methods > 150);
+        return bodies;
+    }
+
+    private static void areAllSeen(Map<String, String> bodies) {
+        for (Class<?> c : TruePoll.class.getNestMembers()) {
+            for (Method m : c.getDeclaredMethods()) {
+                DUE.yes("the text of " + m + " was seen", bodies.containsKey(m.getName()));
+            }
+        }
+    }
+
+    // rules 8, 11
+    private static void depths(Map<String, String> bodies) {
+        Map<String, Set<String>> calls = new TreeMap<>();
+        for (String name : bodies.keySet()) {
+            Set<String> called = new TreeSet<>();
+            Matcher call = Pattern.compile("(?<!new )\\b(\\w+)\\(").matcher(bodies.get(name));
+            while (call.find()) {
+                if (bodies.containsKey(call.group(1))) {
+                    called.add(call.group(1));
+                }
+            }
+            calls.put(name, called);
+        }
+        Set<String> again = new TreeSet<>();
+        for (String name : calls.keySet()) {
+            if (reached(calls, name).contains(name)) {
+                again.add(name);
+            }
+        }
+        DUE.same("only the grammar is read by recursion", again.toString(), new TreeSet<>(READING).toString());
+        Map<String, Integer> known = new HashMap<>();
+        for (String name : calls.keySet()) {
+            int deep = again.contains(name) ? 0 : depth(calls, again, name, known);
+            DUE.yes(name + " is " + DEEPEST + " calls deep at most: " + deep, deep <= DEEPEST);
+        }
+    }
+
+    private static Set<String> reached(Map<String, Set<String>> calls, String from) {
+        Set<String> reached = new TreeSet<>(calls.get(from));
+        int before = 0;
+        while (before < reached.size()) {
+            before = reached.size();
+            for (String name : new TreeSet<>(reached)) {
+                reached.addAll(calls.get(name));
+            }
+        }
+        return reached;
+    }
+
+    /** How many calls stand open at most from a method on, it too, all of a recursion counting as one. */
+    private static int depth(Map<String, Set<String>> calls, Set<String> again, String name, Map<String, Integer> known) {
+        if (!known.containsKey(name)) {
+            int below = 0;
+            for (String next : again.contains(name) ? reached(calls, name) : calls.get(name)) {
+                boolean same = again.contains(name) && again.contains(next);
+                below = Math.max(below, same ? 0 : depth(calls, again, next, known));
+            }
+            known.put(name, below + 1);
+        }
+        return known.get(name);
     }
 }
